@@ -1,0 +1,34 @@
+import java.util.Arrays;
+
+/** Counts answers that are not due, and ends a test. */
+final class Check {
+    private static int wrong = 0;
+
+    private Check() {
+    }
+
+    static void due(String what, long got, long want) {
+        if (got != want) {
+            wrong++;
+            System.out.println(what + " answered " + got + ", due is " + want);
+        }
+    }
+
+    static void due(String what, boolean got, boolean want) {
+        due(what, got ? 1 : 0, want ? 1 : 0);
+    }
+
+    static void due(String what, int[] got, int[] want) {
+        if (!Arrays.equals(got, want)) {
+            wrong++;
+            System.out.println(what + " is " + Arrays.toString(got) + ", due is " + Arrays.toString(want));
+        }
+    }
+
+    static void end() {
+        if (wrong != 0) {
+            System.out.println(wrong + " answers are not as due");
+            System.exit(1);
+        }
+    }
+}

@@ -1,0 +1,69 @@
+/** Objects in states from which tests begin. */
+final class Links {
+    private Links() {
+    }
+
+    /** Queues a job at a site with a file of this length, byte i being (i + 1) * 7 modulo 256. */
+    static void addJob(SpoolLink x, int site, int length) {
+        for (int i = 0; i < length; i++) {
+            x.put(byteAt(i));
+        }
+        x.queue(site);
+    }
+
+    static int byteAt(int i) {
+        return (i + 1) * 7 % 256;
+    }
+
+    /** Site 0 has one job of this length, is MASTER, and its S lies on the wire; site 1 is SLAVE. */
+    static SpoolLink offering(int length) {
+        SpoolLink x = new SpoolLink();
+        addJob(x, 0, length);
+        x.call(0);
+        x.deliver(0);
+        x.deliver(1);
+        return x;
+    }
+
+    /** Both sites have jobs as told, 0 has called, and all has been handed over. */
+    static SpoolLink settled(int jobsOf0, int jobsOf1) {
+        SpoolLink x = new SpoolLink();
+        for (int i = 0; i < jobsOf0; i++) {
+            addJob(x, 0, 10 + i);
+        }
+        for (int i = 0; i < jobsOf1; i++) {
+            addJob(x, 1, 40 + i);
+        }
+        x.call(0);
+        x.settle(200);
+        return x;
+    }
+
+    static void told(SpoolLink x, String when, int site, int... wanted) {
+        int[] got = new int[wanted.length];
+        for (int i = 0; i < wanted.length; i++) {
+            got[i] = x.told(site, i);
+        }
+        Check.due(when + ", told of site " + site, got, wanted);
+    }
+
+    /** The packets on a wire are these. */
+    static void lies(SpoolLink x, String when, int from, int[]... wanted) {
+        Check.due(when + ", waiting(" + from + ")", x.waiting(from), wanted.length);
+        for (int k = 0; k < wanted.length; k++) {
+            Check.due(when + ", packet " + k + " from " + from, Packets.on(x, from, k), wanted[k]);
+        }
+    }
+
+    static void loseAll(SpoolLink x, int from) {
+        while (x.waiting(from) > 0) {
+            x.lose(from);
+        }
+    }
+
+    static void ticks(SpoolLink x, String when, int count, int wantedEach) {
+        for (int i = 1; i <= count; i++) {
+            Check.due(when + ", tick " + i + " of " + count, x.tick(), wantedEach);
+        }
+    }
+}
