@@ -311,6 +311,7 @@ public final class SpoolLink {
         private static final int MOST = 12;
 
         private final Packet[] ring;
+        private final Packet lost = new Packet();
         private int first = 0;
         int count = 0;
 
@@ -325,10 +326,10 @@ public final class SpoolLink {
             return k >= 0 && k < count ? ring[(first + k) % MOST] : null;
         }
 
-        /** One packet more, to be filled; null when there is no room. */
+        /** One packet more, to be filled; when there is no room, one that lies nowhere. */
         Packet add() {
             if (count >= MOST) {
-                return null;
+                return lost;
             }
             count++;
             return ring[(first + count - 1) % MOST];
@@ -365,7 +366,7 @@ public final class SpoolLink {
     private static final class Window {
         private static final int OUT_MOST = 3;
         private static final int BEHIND_MOST = 16;
-        /** One more than can be held, so that a draft always has a place. */
+        /** One more than are held, for a message that is left out. */
         private static final int PLACES = OUT_MOST + BEHIND_MOST + 1;
 
         private final Message[] ring;
@@ -387,19 +388,18 @@ public final class SpoolLink {
             behind = 0;
         }
 
-        /** A message that begins with this letter; it is not held before keepDraft. */
-        Message draft(int letter) {
+        /**
+         * One message more, which begins with this letter; when there is no room, one that is not held.
+         * As whatever may be out is let out before the next packet comes, both bounds are taken together.
+         */
+        Message add(int letter) {
             Message message = ring[(first + out + behind) % PLACES];
             message.bytes[0] = letter;
             message.length = 1;
-            return message;
-        }
-
-        /** A message waits only when OUT_MOST are out or go out at once, so that both bounds may be taken together. */
-        void keepDraft() {
             if (out + behind < OUT_MOST + BEHIND_MOST) {
                 behind++;
             }
+            return message;
         }
 
         /** Lets messages out as far as may be: the place of the first of them. */
@@ -447,13 +447,13 @@ public final class SpoolLink {
         void begin(int newNumber, int newLength) {
             taking = true;
             number = newNumber;
-            length = Math.min(newLength, FILE_MOST);
+            length = newLength;
             took = 0;
         }
 
         /** Takes what stands behind the letter of a message; what is more than was told is cut off. */
         void takePart(Packet packet) {
-            for (int i = 1; i < packet.messageLength() && took < length; i++) {
+            for (int i = 1; i < packet.messageLength() && took < length && took < FILE_MOST; i++) {
                 bytes[took] = packet.messageByte(i);
                 took++;
             }
@@ -592,7 +592,7 @@ public final class SpoolLink {
             begin(CALLING);
             callY = disk.callsBegun & 7;
             disk.callsBegun++;
-            sendControl(Packet.INIT, callY);
+            wire.add().fillControl(Packet.INIT, callY);
         }
 
         /** How many packets were sent again. */
@@ -613,16 +613,24 @@ public final class SpoolLink {
         boolean receive(Packet packet) {
             if (!packet.isGood()) {
                 if (isOpen()) {
-                    sendControl(Packet.RJ, accepted);
+                    wire.add().fillControl(Packet.RJ, accepted);
                 }
                 return false;
             }
             quietTicks = 0;
-            if (!packet.isData()) {
-                takeControl(packet.x(), packet.y());
+            int x = packet.x();
+            if (packet.isData()) {
+                if (isOpen()) {
+                    takeData(packet);
+                }
+            } else if (x == Packet.INIT) {
+                takeInit(packet.y());
+            } else if (x == Packet.ANSWER) {
+                takeAnswer(packet.y());
             } else if (isOpen()) {
-                takeData(packet);
+                takeControl(x, packet.y());
             }
+            sendOutFrom(window.letOut());
             return true;
         }
 
@@ -642,40 +650,16 @@ public final class SpoolLink {
             timesSentAgain++;
             ticks = 0;
             if (state == CALLING) {
-                sendControl(Packet.INIT, callY);
+                wire.add().fillControl(Packet.INIT, callY);
                 return 1;
             }
             sendOutFrom(0);
             return window.out;
         }
 
-        private void sendControl(int x, int y) {
-            Packet packet = wire.add();
-            if (packet != null) {
-                packet.fillControl(x, y);
-            }
-        }
-
         private void sendOutFrom(int from) {
             for (int i = from; i < window.out; i++) {
-                Packet packet = wire.add();
-                if (packet != null) {
-                    packet.fillData(window.number(i), accepted, window.message(i));
-                }
-            }
-        }
-
-        private void takeControl(int x, int y) {
-            if (x == Packet.INIT) {
-                takeInit(y);
-            } else if (x == Packet.ANSWER) {
-                takeAnswer(y);
-            } else if (isOpen()) {
-                if (x == Packet.CLOSE) {
-                    begin(IDLE);
-                } else {
-                    takeAcknowledgement(y, x == Packet.RJ);
-                }
+                wire.add().fillData(window.number(i), accepted, window.message(i));
             }
         }
 
@@ -687,45 +671,52 @@ public final class SpoolLink {
             }
             begin(SLAVE);
             openedByY = y;
-            sendControl(Packet.ANSWER, y);
+            wire.add().fillControl(Packet.ANSWER, y);
         }
 
         private void takeAnswer(int y) {
             if (state == CALLING && callY == y) {
                 begin(MASTER);
-                draftNext();
-                sendOutFrom(window.letOut());
+                goOn();
             }
         }
 
-        private void takeAcknowledgement(int y, boolean isAskedAgain) {
+        private void takeControl(int x, int y) {
+            if (x == Packet.CLOSE) {
+                begin(IDLE);
+                return;
+            }
+            takeAcknowledgement(y);
+            if (x == Packet.RJ) {
+                ticks = 0;
+                sendOutFrom(0);
+            }
+        }
+
+        private void takeAcknowledgement(int y) {
             if (window.acknowledge(y)) {
                 ticks = 0;
                 timesSentAgain = 0;
             }
-            if (isAskedAgain) {
-                ticks = 0;
-                sendOutFrom(0);
-            }
-            sendOutFrom(window.letOut());
         }
 
         private void takeData(Packet packet) {
-            takeAcknowledgement(packet.y(), false);
+            takeAcknowledgement(packet.y());
+            // What waited goes out before RR, and still tells the number that was accepted before this one.
+            sendOutFrom(window.letOut());
             if (packet.x() != (accepted + 1 & 7)) {
-                sendControl(Packet.RR, accepted);
+                wire.add().fillControl(Packet.RR, accepted);
                 return;
             }
             accepted = packet.x();
             hasAccepted = true;
-            sendControl(Packet.RR, accepted);
+            wire.add().fillControl(Packet.RR, accepted);
             if (state == MASTER) {
                 doAsMaster(packet);
             } else {
                 doAsSlave(packet);
                 executeWhatIsWhole();
             }
-            sendOutFrom(window.letOut());
         }
 
         private void doAsMaster(Packet packet) {
@@ -736,14 +727,14 @@ public final class SpoolLink {
                 case 'N':
                 case 'C':
                     if (disk.dropFirstJob()) {
-                        draftNext();
+                        goOn();
                     }
                     break;
                 case 'Y':
-                    draftFile();
+                    addFile();
                     break;
                 case 'H':
-                    sendControl(Packet.CLOSE, 0);
+                    wire.add().fillControl(Packet.CLOSE, 0);
                     begin(IDLE);
                     break;
                 case 'T':
@@ -765,11 +756,11 @@ public final class SpoolLink {
                 }
             } else if (letter == 'H' && length == 1) {
                 if (disk.jobsLeft() == 0) {
-                    draftAlone('H');
+                    window.add('H');
                 } else {
-                    draftAlone('T');
+                    window.add('T');
                     state = MASTER;
-                    draftNext();
+                    goOn();
                 }
             }
         }
@@ -779,9 +770,9 @@ public final class SpoolLink {
                 return;
             }
             if (disk.hasDone(number)) {
-                draftAlone('N');
+                window.add('N');
             } else {
-                draftAlone('Y');
+                window.add('Y');
                 intake.begin(number, length);
             }
         }
@@ -790,39 +781,33 @@ public final class SpoolLink {
             if (intake.isWhole()) {
                 disk.addDone(intake.job());
                 intake.forget();
-                draftAlone('C');
+                window.add('C');
             }
         }
 
-        private void draftAlone(int letter) {
-            window.draft(letter);
-            window.keepDraft();
-        }
-
-        private void draftNext() {
+        /** The master's NEXT. */
+        private void goOn() {
             Job job = disk.firstJob();
             if (job == null) {
-                window.draft('H');
-            } else {
-                Message offer = window.draft('S');
-                offer.append(job.number);
-                offer.append(job.bytes.length);
+                window.add('H');
+                return;
             }
-            window.keepDraft();
+            Message offer = window.add('S');
+            offer.append(job.number);
+            offer.append(job.bytes.length);
         }
 
-        private void draftFile() {
+        private void addFile() {
             Job job = disk.firstJob();
             if (job == null) {
                 return;
             }
             for (int from = 0; from < job.bytes.length; from += PART_MOST) {
-                Message part = window.draft('D');
+                Message part = window.add('D');
                 int end = Math.min(from + PART_MOST, job.bytes.length);
                 for (int i = from; i < end; i++) {
                     part.append(job.bytes[i]);
                 }
-                window.keepDraft();
             }
         }
     }

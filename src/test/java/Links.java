@@ -66,4 +66,19 @@ final class Links {
             Check.due(when + ", tick " + i + " of " + count, x.tick(), wantedEach);
         }
     }
+
+    /**
+     * A site whose DATA are out sends them again, and what comes to the other one is this packet instead; the wire of
+     * the other one then holds what it sent for this alone. Five times at most, from 0 ticks on.
+     */
+    static void hears(SpoolLink x, int from, int number, int acknowledged, int... message) {
+        loseAll(x, from);
+        for (int i = 0; i < 4; i++) {
+            x.tick();
+        }
+        loseAll(x, 1 - from);
+        Packets.forge(x, from, Packets.data(number, acknowledged, message));
+        Check.due("heard", x.deliver(from), 1);
+        loseAll(x, from);
+    }
 }
