@@ -25,7 +25,7 @@ public final class ConversationTest {
     }
 
     private static void nothingToHandOver() {
-        SpoolLink x = new SpoolLink();
+        CountedLink x = new CountedLink();
         x.call(1);
         x.deliver(1);
         x.deliver(0);
@@ -43,7 +43,7 @@ public final class ConversationTest {
     }
 
     private static void oneFile() {
-        SpoolLink x = Links.offering(2);
+        CountedLink x = Links.offering(2);
         Links.lies(x, "S", 0, Packets.data(1, 0, Packets.offer(0, 2)));
         x.deliver(0);
         Links.lies(x, "Y", 1, rr(1), Packets.data(1, 1, 'Y'));
@@ -64,7 +64,7 @@ public final class ConversationTest {
     }
 
     private static void emptyFile() {
-        SpoolLink x = Links.offering(0);
+        CountedLink x = Links.offering(0);
         Links.lies(x, "S", 0, Packets.data(1, 0, Packets.offer(0, 0)));
         x.deliver(0);
         Links.lies(x, "Y and C", 1, rr(1), Packets.data(1, 1, 'Y'), Packets.data(2, 1, 'C'));
@@ -76,7 +76,7 @@ public final class ConversationTest {
     }
 
     private static void turn() {
-        SpoolLink x = new SpoolLink();
+        CountedLink x = new CountedLink();
         Links.addJob(x, 1, 1);
         x.call(0);
         x.deliver(0);
@@ -94,7 +94,7 @@ public final class ConversationTest {
     }
 
     private static void alreadyExecuted() {
-        SpoolLink x = Links.offering(0);
+        CountedLink x = Links.offering(0);
         x.deliver(0);
         x.crash(0);
         x.crash(1);
@@ -113,7 +113,7 @@ public final class ConversationTest {
 
     private static void filesOfAllLengths() {
         for (int length = 0; length <= 100; length++) {
-            SpoolLink x = Links.offering(length);
+            CountedLink x = Links.offering(length);
             x.settle(200);
             Links.told(x, "length " + length, 0, 0, 0, 0, 0, 0, 1);
             for (int i = 0; i <= length; i++) {
@@ -123,7 +123,7 @@ public final class ConversationTest {
     }
 
     private static void partsAtTheEdges() {
-        SpoolLink x = Links.offering(5);
+        CountedLink x = Links.offering(5);
         Links.hears(x, 0, 1, 0, Packets.offer(0, 3));
         Links.hears(x, 0, 2, 1, 'D');
         Links.lies(x, "D without bytes", 1, rr(2));
@@ -139,7 +139,7 @@ public final class ConversationTest {
     }
 
     private static void offersThatAreLeftOut() {
-        SpoolLink x = Links.offering(5);
+        CountedLink x = Links.offering(5);
         Links.hears(x, 0, 1, 0, Packets.offer(0, 101));
         Links.lies(x, "S of 101", 1, rr(1));
         Links.hears(x, 0, 2, 0, 'D', 1, 2);
@@ -152,7 +152,7 @@ public final class ConversationTest {
     }
 
     private static void offerForgetsWhatWasTaken() {
-        SpoolLink x = Links.offering(5);
+        CountedLink x = Links.offering(5);
         Links.hears(x, 0, 1, 0, Packets.offer(0, 3));
         Links.hears(x, 0, 2, 1, 'D', 1, 2);
         Links.hears(x, 0, 3, 1, Packets.offer(4, 2));
@@ -166,7 +166,7 @@ public final class ConversationTest {
     }
 
     private static void refusalKeepsWhatWasTaken() {
-        SpoolLink x = Links.offering(5);
+        CountedLink x = Links.offering(5);
         Links.hears(x, 0, 1, 0, Packets.offer(7, 0));
         Links.hears(x, 0, 2, 2, Packets.offer(0, 2));
         Links.hears(x, 0, 3, 3, 'D', 1);
@@ -179,7 +179,7 @@ public final class ConversationTest {
     }
 
     private static void numbersThatWereNeverQueued() {
-        SpoolLink x = Links.offering(5);
+        CountedLink x = Links.offering(5);
         Links.hears(x, 0, 1, 0, Packets.offer(255, 0));
         Check.due("executed", x.executed(1, 0), 255);
         Check.due("no such job", x.times(0, 255), -1);
@@ -193,7 +193,7 @@ public final class ConversationTest {
         int[][] toSlave = {{'N'}, {'Y'}, {'C'}, {'T'}, {'X'}, {0}, {'S'}, {'S', 1}, {'S', 1, 2, 3}, {'H', 0}, {'h'},
             {'D'}, {'D', 1}, new int[31]};
         for (int[] message : toSlave) {
-            SpoolLink x = Links.offering(5);
+            CountedLink x = Links.offering(5);
             Links.addJob(x, 1, 2);
             Links.hears(x, 0, 1, 0, message);
             Links.lies(x, "left out by a SLAVE", 1, rr(1));
@@ -202,7 +202,7 @@ public final class ConversationTest {
         int[][] toMaster = {{'S', 0, 0}, {'D', 1}, {'D'}, {'X'}, {255}, {'N', 0}, {'Y', 1}, {'C', 'C'}, {'H', 'H'},
             {'T', 0}, new int[31]};
         for (int[] message : toMaster) {
-            SpoolLink x = Links.offering(5);
+            CountedLink x = Links.offering(5);
             x.deliver(0);
             Links.hears(x, 1, 1, 1, message);
             Links.lies(x, "left out by a MASTER", 0, rr(1));
@@ -211,8 +211,8 @@ public final class ConversationTest {
     }
 
     /** Site 0, MASTER with two jobs, has offered the first; its S is not acknowledged; site 1's DATA are out. */
-    private static SpoolLink masterOfTwo() {
-        SpoolLink x = new SpoolLink();
+    private static CountedLink masterOfTwo() {
+        CountedLink x = new CountedLink();
         Links.addJob(x, 0, 1);
         Links.addJob(x, 0, 2);
         x.call(0);
@@ -224,7 +224,7 @@ public final class ConversationTest {
 
     private static void masterDoesNotWait() {
         for (int letter : new int[] {'N', 'C'}) {
-            SpoolLink x = masterOfTwo();
+            CountedLink x = masterOfTwo();
             Links.hears(x, 1, 1, 1, letter);
             Links.lies(x, "N or C at once", 0, rr(1), Packets.data(2, 1, Packets.offer(1, 2)));
             Check.due("the first job left", x.queued(0, 0), 1);
@@ -232,7 +232,7 @@ public final class ConversationTest {
             Links.lies(x, "and again", 0, rr(2), Packets.data(3, 2, 'H'));
             Check.due("the second job left", x.told(0, 0), 0);
         }
-        SpoolLink x = masterOfTwo();
+        CountedLink x = masterOfTwo();
         Links.hears(x, 1, 1, 1, 'Y');
         Links.hears(x, 1, 2, 2, 'Y');
         Links.lies(x, "Y again", 0, rr(2), Packets.data(3, 2, 'D', 7));
@@ -240,7 +240,7 @@ public final class ConversationTest {
 
     private static void masterWithAnEmptyQueue() {
         for (int letter : new int[] {'N', 'C', 'Y'}) {
-            SpoolLink x = masterOfTwo();
+            CountedLink x = masterOfTwo();
             Links.hears(x, 1, 1, 1, 'N');
             Links.hears(x, 1, 2, 2, 'N');
             Links.hears(x, 1, 3, 3, letter);
@@ -250,7 +250,7 @@ public final class ConversationTest {
     }
 
     private static void masterAtTurn() {
-        SpoolLink x = masterOfTwo();
+        CountedLink x = masterOfTwo();
         Links.hears(x, 1, 1, 1, 'T');
         Links.told(x, "T", 0, 2, 0, 3, 0, 0, 1);
         Links.lies(x, "T", 0, rr(1));
@@ -263,7 +263,7 @@ public final class ConversationTest {
     }
 
     private static void sixteenWait() {
-        SpoolLink x = Links.offering(100);
+        CountedLink x = Links.offering(100);
         x.deliver(0);
         x.deliver(1);
         x.deliver(1);
@@ -286,7 +286,7 @@ public final class ConversationTest {
     }
 
     /** Hands over all, and tells how long the messages from site 0 were. */
-    private static int[] lengthsOfMessages(SpoolLink x) {
+    private static int[] lengthsOfMessages(CountedLink x) {
         int[] lengths = new int[100];
         int count = 0;
         for (int i = 0; i < 100 && x.waiting(0) + x.waiting(1) > 0; i++) {
@@ -294,9 +294,9 @@ public final class ConversationTest {
                 x.deliver(1);
                 continue;
             }
-            int[] packet = Packets.on(x, 0, 0);
-            if (packet.length == 38) {
-                lengths[count] = packet[6];
+            int length = x.look(0, 0, 6);
+            if (length != SpoolLink.NONE) {
+                lengths[count] = length;
                 count++;
             }
             x.deliver(0);

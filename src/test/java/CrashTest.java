@@ -21,17 +21,17 @@ public final class CrashTest {
     }
 
     private static void noSuchSite() {
-        SpoolLink x = Links.offering(4);
+        CountedLink x = Links.offering(4);
         for (int site : new int[] {-1, 2, Integer.MIN_VALUE, Integer.MAX_VALUE}) {
             Check.due("crash(" + site + ")", x.crash(site), false);
         }
         Links.told(x, "not crashed", 0, 1, 0, 2, 1, 0, 1);
         Links.told(x, "not crashed", 1, 0, 0, 3, 0, 0, 0);
-        Check.due("crash of an IDLE one", new SpoolLink().crash(1), true);
+        Check.due("crash of an IDLE one", new CountedLink().crash(1), true);
     }
 
     private static void sessionIsForgotten() {
-        SpoolLink x = Links.settled(1, 1);
+        CountedLink x = Links.settled(1, 1);
         Links.addJob(x, 0, 100);
         x.call(0);
         x.settle(4);
@@ -47,14 +47,14 @@ public final class CrashTest {
     }
 
     private static void lineStays() {
-        SpoolLink x = Links.offering(4);
+        CountedLink x = Links.offering(4);
         x.crash(0);
         x.crash(1);
         Links.lies(x, "crashed", 0, Packets.data(1, 0, Packets.offer(0, 4)));
     }
 
-    private static SpoolLink jobs() {
-        SpoolLink x = new SpoolLink();
+    private static CountedLink jobs() {
+        CountedLink x = new CountedLink();
         for (int i = 0; i < JOBS_OF_0; i++) {
             Links.addJob(x, 0, 35 * i);
         }
@@ -66,7 +66,7 @@ public final class CrashTest {
     }
 
     private static void crashAt(int at, boolean site0, boolean site1) {
-        SpoolLink x = jobs();
+        CountedLink x = jobs();
         if (at > 0) {
             x.settle(at);
         }
@@ -88,7 +88,7 @@ public final class CrashTest {
     }
 
     private static void loseAt(int at, int from) {
-        SpoolLink x = jobs();
+        CountedLink x = jobs();
         if (at > 0) {
             x.settle(at);
         }
@@ -97,7 +97,7 @@ public final class CrashTest {
     }
 
     private static void alterAt(int at, int from) {
-        SpoolLink x = jobs();
+        CountedLink x = jobs();
         if (at > 0) {
             x.settle(at);
         }
@@ -106,7 +106,7 @@ public final class CrashTest {
     }
 
     /** Without a crash, ticks alone bring it to its end. */
-    private static void finish(SpoolLink x, String when) {
+    private static void finish(CountedLink x, String when) {
         for (int i = 0; i < 50; i++) {
             x.settle(200);
             x.tick();
@@ -114,7 +114,7 @@ public final class CrashTest {
         dueOnce(x, when);
     }
 
-    private static void dueOnce(SpoolLink x, String when) {
+    private static void dueOnce(CountedLink x, String when) {
         Check.due(when + ", left at 0", x.told(0, 0), 0);
         Check.due(when + ", left at 1", x.told(1, 0), 0);
         Check.due(when + ", executed at 0", x.told(0, 1), JOBS_OF_1);
@@ -127,7 +127,7 @@ public final class CrashTest {
         }
     }
 
-    private static void dueFile(SpoolLink x, String when, int site, int k, int length) {
+    private static void dueFile(CountedLink x, String when, int site, int k, int length) {
         Check.due(when + ", number", x.executed(site, k), k);
         Check.due(when + ", times", x.times(1 - site, k), 1);
         for (int i = 0; i <= length; i++) {

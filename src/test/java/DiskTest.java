@@ -1,7 +1,5 @@
 /** Promises 1, 2, 3, 13 to 17: what stands on the disks, and wrong arguments. */
 public final class DiskTest {
-    private static final int[] NO_SITES = {-1, 2, 3, Integer.MIN_VALUE, Integer.MAX_VALUE};
-
     public static void main(String[] args) {
         newObject();
         putCounts();
@@ -14,7 +12,7 @@ public final class DiskTest {
     }
 
     private static void newObject() {
-        SpoolLink x = new SpoolLink();
+        CountedLink x = new CountedLink();
         for (int site = 0; site < 2; site++) {
             Links.told(x, "new", site, 0, 0, 0, 0, 0, 0);
             Links.lies(x, "new", site);
@@ -27,7 +25,7 @@ public final class DiskTest {
     }
 
     private static void putCounts() {
-        SpoolLink x = new SpoolLink();
+        CountedLink x = new CountedLink();
         for (int i = 1; i <= 100; i++) {
             Check.due("put", x.put(i % 2 == 0 ? 0 : 255), i);
         }
@@ -38,7 +36,7 @@ public final class DiskTest {
     }
 
     private static void putRefuses() {
-        SpoolLink x = new SpoolLink();
+        CountedLink x = new CountedLink();
         for (int b : new int[] {-1, 256, Integer.MIN_VALUE, Integer.MAX_VALUE}) {
             Check.due("put(" + b + ")", x.put(b), -1);
         }
@@ -46,7 +44,7 @@ public final class DiskTest {
     }
 
     private static void queueNumbers() {
-        SpoolLink x = new SpoolLink();
+        CountedLink x = new CountedLink();
         for (int i = 0; i < 30; i++) {
             Check.due("queue(0)", x.queue(0), i);
             Check.due("jobs", x.told(0, 0), i + 1);
@@ -62,10 +60,10 @@ public final class DiskTest {
     }
 
     private static void queueRefuses() {
-        SpoolLink x = new SpoolLink();
+        CountedLink x = new CountedLink();
         x.put(1);
         x.put(2);
-        for (int site : NO_SITES) {
+        for (int site : Links.NO_SITES) {
             Check.due("queue(" + site + ")", x.queue(site), -1);
         }
         Check.due("the next file stays", x.put(3), 3);
@@ -88,9 +86,9 @@ public final class DiskTest {
     }
 
     private static void noSuchSites() {
-        SpoolLink x = Links.settled(2, 2);
+        CountedLink x = Links.settled(2, 2);
         x.call(0);
-        for (int site : NO_SITES) {
+        for (int site : Links.NO_SITES) {
             for (int what = -1; what <= 6; what++) {
                 Check.due("told", x.told(site, what), -1);
             }
@@ -105,7 +103,7 @@ public final class DiskTest {
     }
 
     private static void whatWasExecuted() {
-        SpoolLink x = Links.settled(3, 2);
+        CountedLink x = Links.settled(3, 2);
         Links.told(x, "settled", 0, 0, 2, 0, 0, 0, 1);
         Links.told(x, "settled", 1, 0, 3, 0, 0, 0, 0);
         for (int site = 0; site < 2; site++) {

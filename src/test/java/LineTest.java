@@ -1,7 +1,5 @@
 /** Promises 4 to 7, 11 and 12: packets on the line. */
 public final class LineTest {
-    private static final int[] NO_SITES = {-1, 2, Integer.MIN_VALUE, Integer.MAX_VALUE};
-
     public static void main(String[] args) {
         callSendsInit();
         callClearsTheLine();
@@ -20,7 +18,7 @@ public final class LineTest {
 
     private static void callSendsInit() {
         for (int site = 0; site < 2; site++) {
-            SpoolLink x = new SpoolLink();
+            CountedLink x = new CountedLink();
             Check.due("call", x.call(site), true);
             Links.told(x, "called", site, 0, 0, 1, 0, 0, 1);
             Links.lies(x, "called", site, Packets.control(Packets.INIT, 0));
@@ -28,14 +26,14 @@ public final class LineTest {
             Links.lies(x, "called again", site, Packets.control(Packets.INIT, 0));
             Check.due("calls begun", x.told(site, 5), 1);
         }
-        SpoolLink open = Links.offering(5);
+        CountedLink open = Links.offering(5);
         Check.due("call of a master", open.call(0), false);
         Check.due("call of a slave", open.call(1), false);
         Check.due("line stays", open.waiting(0), 1);
     }
 
     private static void callClearsTheLine() {
-        SpoolLink x = Links.offering(5);
+        CountedLink x = Links.offering(5);
         x.deliver(0);
         x.crash(0);
         Check.due("before", x.waiting(1), 2);
@@ -45,7 +43,7 @@ public final class LineTest {
     }
 
     private static void callCountsModuloEight() {
-        SpoolLink x = new SpoolLink();
+        CountedLink x = new CountedLink();
         for (int i = 0; i < 20; i++) {
             Check.due("call " + i, x.call(1), true);
             Links.lies(x, "call " + i, 1, Packets.control(Packets.INIT, i % 8));
@@ -55,7 +53,7 @@ public final class LineTest {
     }
 
     private static void knownBytes() {
-        SpoolLink x = new SpoolLink();
+        CountedLink x = new CountedLink();
         x.call(0);
         Check.due("INIT 0", Packets.on(x, 0, 0), new int[] {16, 9, 114, 170, 56, 233});
         x = Links.offering(65);
@@ -65,8 +63,8 @@ public final class LineTest {
     }
 
     private static void noSuchWires() {
-        SpoolLink x = Links.offering(5);
-        for (int from : NO_SITES) {
+        CountedLink x = Links.offering(5);
+        for (int from : Links.NO_SITES) {
             Check.due("call", x.call(from), false);
             Check.due("deliver", x.deliver(from), -1);
             Check.due("lose", x.lose(from), false);
@@ -88,7 +86,7 @@ public final class LineTest {
     }
 
     private static void loseTakesTheFirst() {
-        SpoolLink x = Links.offering(5);
+        CountedLink x = Links.offering(5);
         x.deliver(0);
         Links.lies(x, "before", 1, Packets.control(Packets.RR, 1), Packets.data(1, 1, 'Y'));
         Check.due("lose", x.lose(1), true);
@@ -99,7 +97,7 @@ public final class LineTest {
     }
 
     private static void alterEdges() {
-        SpoolLink x = Links.offering(5);
+        CountedLink x = Links.offering(5);
         x.deliver(0);
         for (int at : new int[] {-1, 6, 7, 38, Integer.MIN_VALUE, Integer.MAX_VALUE}) {
             Check.due("alter at " + at, x.alter(1, at, 1), false);
@@ -121,13 +119,13 @@ public final class LineTest {
     private static void anyAlteredByteIsNotGood() {
         for (int bit = 1; bit < 256; bit *= 2) {
             for (int at = 0; at < 38; at++) {
-                SpoolLink x = Links.offering(20);
+                CountedLink x = Links.offering(20);
                 x.alter(0, at, bit);
                 Check.due("DATA altered at " + at, x.deliver(0), 0);
                 Links.lies(x, "DATA altered at " + at, 1, Packets.control(Packets.RJ, 0));
             }
             for (int at = 0; at < 6; at++) {
-                SpoolLink x = new SpoolLink();
+                CountedLink x = new CountedLink();
                 x.call(0);
                 x.alter(0, at, bit);
                 Check.due("INIT altered at " + at, x.deliver(0), 0);
@@ -139,7 +137,7 @@ public final class LineTest {
 
     private static void controlsThatAreGood() {
         for (int c = 0; c < 256; c++) {
-            SpoolLink x = new SpoolLink();
+            CountedLink x = new CountedLink();
             x.call(0);
             Packets.forge(x, 0, Packets.controlOf(c));
             int kind = c / 8;
@@ -150,7 +148,7 @@ public final class LineTest {
 
     private static void dataThatAreGood() {
         for (int c = 0; c < 256; c++) {
-            SpoolLink x = Links.offering(20);
+            CountedLink x = Links.offering(20);
             int[] data = new int[32];
             data[0] = 1;
             Packets.forge(x, 0, Packets.dataOf(c, data));
@@ -158,7 +156,7 @@ public final class LineTest {
         }
         for (int n = 0; n < 256; n++) {
             for (int last = 0; last < 32; last++) {
-                SpoolLink x = Links.offering(20);
+                CountedLink x = Links.offering(20);
                 int[] data = new int[32];
                 data[last] = 255;
                 data[0] = n;
@@ -170,14 +168,14 @@ public final class LineTest {
     }
 
     private static void lengthAndKindBelongTogether() {
-        SpoolLink x = Links.offering(20);
+        CountedLink x = Links.offering(20);
         int[] longControl = new int[38];
         System.arraycopy(Packets.control(Packets.CLOSE, 0), 0, longControl, 0, 6);
         Packets.forge(x, 0, longControl);
         Check.due("a control with data", x.deliver(0), 0);
         Check.due("still open", x.told(1, 2), 3);
 
-        x = new SpoolLink();
+        x = new CountedLink();
         x.call(0);
         int[] shortData = java.util.Arrays.copyOf(Packets.data(1, 0, 'H'), 6);
         Packets.forge(x, 0, shortData);
@@ -185,7 +183,7 @@ public final class LineTest {
     }
 
     private static void fullWire() {
-        SpoolLink x = Links.offering(100);
+        CountedLink x = Links.offering(100);
         x.deliver(0);
         x.deliver(1);
         x.deliver(1);

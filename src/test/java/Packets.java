@@ -57,7 +57,7 @@ final class Packets {
     }
 
     /** Packet k on a wire. */
-    static int[] on(SpoolLink x, int from, int k) {
+    static int[] on(CountedLink x, int from, int k) {
         int length = 0;
         while (x.look(from, k, length) != SpoolLink.NONE) {
             length++;
@@ -69,15 +69,39 @@ final class Packets {
         return packet;
     }
 
-    /** Alters the first packet on a wire, which must have this length, to the one that is wanted. */
-    static void forge(SpoolLink x, int from, int[] wanted) {
-        Check.due("length of the packet to forge", on(x, from, 0).length, wanted.length);
-        for (int i = 0; i < wanted.length; i++) {
+    /** The head of packet k on a wire, the sum of all its data among it. */
+    static int[] headOn(CountedLink x, int from, int k) {
+        int[] head = new int[6];
+        for (int i = 0; i < 6; i++) {
+            head[i] = x.look(from, k, i);
+        }
+        return head;
+    }
+
+    static int[] head(int[] packet) {
+        return java.util.Arrays.copyOf(packet, 6);
+    }
+
+    /** Alters the first packet on a wire, which must have this length and be as it was sent, to the one wanted. */
+    static void forge(CountedLink x, int from, int[] wanted) {
+        Check.due("behind the packet to forge", x.look(from, 0, wanted.length), SpoolLink.NONE);
+        // Behind the longer one of the two messages both are 0.
+        int end = wanted.length == 6 ? 6 : Math.max(7 + x.look(from, 0, 6), endOf(wanted));
+        for (int i = 1; i < end; i++) {
             int mask = x.look(from, 0, i) ^ wanted[i];
             if (mask != 0) {
                 Check.due("alter", x.alter(from, i, mask), true);
             }
         }
+    }
+
+    /** The place behind its last byte that is not 0. */
+    private static int endOf(int[] packet) {
+        int end = packet.length;
+        while (end > 7 && packet[end - 1] == 0) {
+            end--;
+        }
+        return end;
     }
 
     private static int sum(int[] data) {

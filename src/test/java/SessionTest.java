@@ -20,7 +20,7 @@ public final class SessionTest {
     }
 
     private static void callsThatMeet() {
-        SpoolLink x = new SpoolLink();
+        CountedLink x = new CountedLink();
         x.call(0);
         x.call(1);
         Links.ticks(x, "calls that meet", 3, 0);
@@ -40,7 +40,7 @@ public final class SessionTest {
     }
 
     private static void initTwice() {
-        SpoolLink x = new SpoolLink();
+        CountedLink x = new CountedLink();
         Links.addJob(x, 0, 3);
         x.call(0);
         Links.ticks(x, "INIT twice", 3, 0);
@@ -57,7 +57,7 @@ public final class SessionTest {
     }
 
     /** Site 0 calls so often that the next INIT has this y. */
-    private static void callWith(SpoolLink x, int y) {
+    private static void callWith(CountedLink x, int y) {
         do {
             x.crash(0);
             x.call(0);
@@ -67,21 +67,21 @@ public final class SessionTest {
 
     private static void initOfTheSameYBehindData() {
         for (int y = 0; y < 8; y++) {
-            SpoolLink x = Links.offering(5);
+            CountedLink x = Links.offering(5);
             x.deliver(0);
             callWith(x, y);
             Check.due("INIT " + y, x.deliver(0), 1);
             Links.told(x, "INIT " + y + " behind INIT 0", 1, 0, 0, 3, y == 0 ? 1 : 0, 0, 0);
             Check.due("answered " + y, x.waiting(1), y == 0 ? 0 : 1);
         }
-        SpoolLink x = Links.offering(5);
+        CountedLink x = Links.offering(5);
         callWith(x, 0);
         x.deliver(0);
         Links.lies(x, "INIT 0 before DATA", 1, Packets.control(Packets.ANSWER, 0));
     }
 
     private static void initOfTheSameYBehindEightData() {
-        SpoolLink x = new SpoolLink();
+        CountedLink x = new CountedLink();
         for (int i = 0; i < 5; i++) {
             Links.addJob(x, 0, 1);
         }
@@ -96,7 +96,7 @@ public final class SessionTest {
     }
 
     private static void initOpensAMasterAnew() {
-        SpoolLink x = Links.offering(5);
+        CountedLink x = Links.offering(5);
         x.crash(1);
         x.call(1);
         x.deliver(1);
@@ -108,7 +108,7 @@ public final class SessionTest {
 
     private static void answers() {
         for (int y = 0; y < 8; y++) {
-            SpoolLink x = new SpoolLink();
+            CountedLink x = new CountedLink();
             callWith(x, 3);
             x.deliver(0);
             Packets.forge(x, 1, Packets.control(Packets.ANSWER, y));
@@ -116,7 +116,7 @@ public final class SessionTest {
             Check.due("state behind ANSWER " + y, x.told(0, 2), y == 3 ? 2 : 1);
             Check.due("sent behind ANSWER " + y, x.waiting(0), y == 3 ? 1 : 0);
         }
-        SpoolLink x = new SpoolLink();
+        CountedLink x = new CountedLink();
         x.call(0);
         x.deliver(0);
         x.crash(0);
@@ -126,7 +126,7 @@ public final class SessionTest {
 
     private static void closes() {
         for (int y = 0; y < 8; y++) {
-            SpoolLink x = Links.offering(100);
+            CountedLink x = Links.offering(100);
             x.deliver(0);
             x.deliver(1);
             x.deliver(1);
@@ -141,7 +141,7 @@ public final class SessionTest {
 
     private static void othersAreLeftOutUnlessOpen() {
         for (int kind : new int[] {Packets.CLOSE, Packets.RJ, Packets.RR}) {
-            SpoolLink x = new SpoolLink();
+            CountedLink x = new CountedLink();
             x.call(0);
             x.deliver(0);
             Packets.forge(x, 1, Packets.control(kind, 0));
@@ -149,7 +149,7 @@ public final class SessionTest {
             Links.told(x, "to a CALLING one", 0, 0, 0, 1, 0, 0, 1);
             Check.due("nothing sent", x.waiting(0), 0);
         }
-        SpoolLink x = Links.offering(5);
+        CountedLink x = Links.offering(5);
         x.crash(1);
         Check.due("DATA to an IDLE one", x.deliver(0), 1);
         Links.told(x, "DATA to an IDLE one", 1, 0, 0, 0, 0, 0, 0);
@@ -157,7 +157,7 @@ public final class SessionTest {
     }
 
     private static void notGoodPackets() {
-        SpoolLink x = new SpoolLink();
+        CountedLink x = new CountedLink();
         x.call(0);
         x.deliver(0);
         x.alter(1, 0, 1);
@@ -177,8 +177,8 @@ public final class SessionTest {
     }
 
     /** Site 0 has DATA 2, 3 and 4 out and one more waiting; controls for it lie on the wire, none for site 1. */
-    private static SpoolLink threeOut() {
-        SpoolLink x = Links.offering(100);
+    private static CountedLink threeOut() {
+        CountedLink x = Links.offering(100);
         x.deliver(0);
         x.deliver(1);
         x.deliver(1);
@@ -205,7 +205,7 @@ public final class SessionTest {
 
     private static void acknowledgements() {
         for (int y = 0; y < 8; y++) {
-            SpoolLink x = threeOut();
+            CountedLink x = threeOut();
             Packets.forge(x, 1, Packets.control(Packets.RR, y));
             x.deliver(1);
             boolean isOut = y >= 2 && y <= 4;
@@ -219,7 +219,7 @@ public final class SessionTest {
     }
 
     private static void askedForAgain() {
-        SpoolLink x = threeOut();
+        CountedLink x = threeOut();
         Packets.forge(x, 1, Packets.control(Packets.RJ, 2));
         x.deliver(1);
         Links.lies(x, "RJ 2", 0, part(3), part(4), part(5));
@@ -236,7 +236,7 @@ public final class SessionTest {
 
     private static void askedForAgainWithoutAnyAcknowledged() {
         for (int y : new int[] {0, 1, 5, 6, 7}) {
-            SpoolLink x = threeOut();
+            CountedLink x = threeOut();
             Packets.forge(x, 1, Packets.control(Packets.RJ, y));
             x.deliver(1);
             Links.lies(x, "RJ " + y, 0, part(2), part(3), part(4));
@@ -245,7 +245,7 @@ public final class SessionTest {
     }
 
     private static void sentAgainWithWhatWasAcceptedLast() {
-        SpoolLink x = Links.offering(40);
+        CountedLink x = Links.offering(40);
         x.deliver(0);
         x.lose(1);
         Packets.forge(x, 1, Packets.data(1, 0, 'Y'));
@@ -261,14 +261,14 @@ public final class SessionTest {
 
     private static void dataOutOfOrder() {
         for (int number = 0; number < 8; number++) {
-            SpoolLink x = Links.offering(5);
+            CountedLink x = Links.offering(5);
             Packets.forge(x, 0, Packets.data(number, 0, Packets.offer(0, 5)));
             Check.due("DATA " + number, x.deliver(0), 1);
             int[] answer = Packets.control(Packets.RR, number == 1 ? 1 : 0);
             Check.due("answer to DATA " + number, Packets.on(x, 1, 0), answer);
             Check.due("sent for DATA " + number, x.waiting(1), number == 1 ? 2 : 1);
         }
-        SpoolLink x = Links.offering(5);
+        CountedLink x = Links.offering(5);
         x.deliver(0);
         Links.hears(x, 0, 1, 1, 'H');
         Links.lies(x, "DATA 1 twice", 1, Packets.control(Packets.RR, 1));
@@ -276,7 +276,7 @@ public final class SessionTest {
     }
 
     private static void numbersComeRound() {
-        SpoolLink x = new SpoolLink();
+        CountedLink x = new CountedLink();
         for (int i = 0; i < 10; i++) {
             x.queue(0);
         }
@@ -286,7 +286,7 @@ public final class SessionTest {
         for (int i = 1; i <= 10; i++) {
             int acknowledged = 2 * (i - 1) % 8;
             int[] offer = Packets.data(i % 8, acknowledged, Packets.offer(i - 1, 0));
-            Check.due("offer " + i, Packets.on(x, 0, 0), offer);
+            Check.due("offer " + i, Packets.headOn(x, 0, 0), Packets.head(offer));
             while (x.waiting(0) > 0) {
                 x.deliver(0);
             }

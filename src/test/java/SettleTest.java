@@ -10,20 +10,20 @@ public final class SettleTest {
     }
 
     private static void wrongArguments() {
-        SpoolLink x = new SpoolLink();
+        CountedLink x = new CountedLink();
         x.call(0);
         for (int n : new int[] {0, -1, 201, Integer.MIN_VALUE, Integer.MAX_VALUE}) {
             Check.due("settle(" + n + ")", x.settle(n), -1);
         }
         Check.due("nothing handed over", x.waiting(0), 1);
         Check.due("settle(1)", x.settle(1), 1);
-        Check.due("settle(200)", new SpoolLink().settle(200), 0);
+        Check.due("settle(200)", new CountedLink().settle(200), 0);
     }
 
     private static void howMany() {
         // INIT, ANSWER, H, RR, H, RR, CLOSE.
         for (int n = 1; n <= 10; n++) {
-            SpoolLink x = new SpoolLink();
+            CountedLink x = new CountedLink();
             x.call(0);
             Check.due("settle(" + n + ")", x.settle(n), Math.min(n, 7));
             Check.due("the rest behind " + n, x.settle(200), Math.max(0, 7 - n));
@@ -31,8 +31,8 @@ public final class SettleTest {
     }
 
     /** On the wire from 0: RR, D, D, D; one D more waits. */
-    private static SpoolLink sendingAFile() {
-        SpoolLink x = Links.offering(100);
+    private static CountedLink sendingAFile() {
+        CountedLink x = Links.offering(100);
         x.deliver(0);
         x.deliver(1);
         x.deliver(1);
@@ -40,12 +40,12 @@ public final class SettleTest {
         return x;
     }
 
-    private static void wires(SpoolLink x, String when, int from0, int from1) {
+    private static void wires(CountedLink x, String when, int from0, int from1) {
         Check.due(when + ", wires", new int[] {x.waiting(0), x.waiting(1)}, new int[] {from0, from1});
     }
 
     private static void beginsWith0() {
-        SpoolLink x = sendingAFile();
+        CountedLink x = sendingAFile();
         x.settle(1);
         wires(x, "RR", 3, 0);
         x.settle(1);
@@ -59,7 +59,7 @@ public final class SettleTest {
     }
 
     private static void byTurns() {
-        SpoolLink x = sendingAFile();
+        CountedLink x = sendingAFile();
         x.deliver(0);
         Check.due("settle", x.settle(2), 2);
         wires(x, "first D and its RR", 3, 0);
@@ -68,7 +68,7 @@ public final class SettleTest {
     }
 
     private static void oneAlone() {
-        SpoolLink x = sendingAFile();
+        CountedLink x = sendingAFile();
         x.settle(1);
         x.settle(1);
         x.settle(1);

@@ -17,7 +17,7 @@ public final class TickTest {
     }
 
     private static void idleSitesDoNotCount() {
-        SpoolLink x = new SpoolLink();
+        CountedLink x = new CountedLink();
         Links.ticks(x, "idle", 50, 0);
         x.call(0);
         Links.ticks(x, "called then", 3, 0);
@@ -25,7 +25,7 @@ public final class TickTest {
     }
 
     /** Five times sent again, at every fourth tick, and IDLE at the fourth tick behind the fifth time. */
-    private static void givesUp(SpoolLink x, int site, int sentEach, int state) {
+    private static void givesUp(CountedLink x, int site, int sentEach, int state) {
         for (int round = 1; round <= 5; round++) {
             Links.ticks(x, "round " + round, 3, 0);
             Check.due("sent in round " + round, x.tick(), sentEach);
@@ -39,7 +39,7 @@ public final class TickTest {
 
     private static void callingGivesUp() {
         for (int site = 0; site < 2; site++) {
-            SpoolLink x = new SpoolLink();
+            CountedLink x = new CountedLink();
             x.call(site);
             x.crash(site);
             x.call(site);
@@ -51,8 +51,8 @@ public final class TickTest {
     }
 
     /** Site 0 has DATA 2, 3 and 4 out, one waits, and site 1 is IDLE; the line is empty. */
-    private static SpoolLink threeOut() {
-        SpoolLink x = Links.offering(100);
+    private static CountedLink threeOut() {
+        CountedLink x = Links.offering(100);
         x.deliver(0);
         x.deliver(1);
         x.deliver(1);
@@ -63,28 +63,28 @@ public final class TickTest {
     }
 
     private static void dataAreSentAgain() {
-        SpoolLink x = threeOut();
+        CountedLink x = threeOut();
         givesUp(x, 0, 3, 2);
         Links.told(x, "given up", 0, 1, 0, 0, 0, 0, 1);
         Check.due("wire is full", x.waiting(0), 12);
     }
 
     /** The first packet on the wire from 0 comes to 1 and something comes back from there that is this control. */
-    private static void answers(SpoolLink x, int[] control) {
+    private static void answers(CountedLink x, int[] control) {
         x.deliver(0);
         Packets.forge(x, 1, control);
         x.deliver(1);
     }
 
-    private static SpoolLink offeringTwiceSent() {
-        SpoolLink x = Links.offering(100);
+    private static CountedLink offeringTwiceSent() {
+        CountedLink x = Links.offering(100);
         Links.ticks(x, "offering", 3, 0);
         Check.due("offer again", x.tick(), 1);
         return x;
     }
 
     private static void acknowledgedBeginsAnew() {
-        SpoolLink x = Links.offering(100);
+        CountedLink x = Links.offering(100);
         x.deliver(0);
         x.deliver(1);
         x.deliver(1);
@@ -106,7 +106,7 @@ public final class TickTest {
     }
 
     private static void askedForAgainBeginsTheTicksAnew() {
-        SpoolLink x = offeringTwiceSent();
+        CountedLink x = offeringTwiceSent();
         Links.ticks(x, "before RJ", 3, 0);
         answers(x, Packets.control(Packets.RJ, 0));
         x.crash(1);
@@ -121,14 +121,14 @@ public final class TickTest {
     }
 
     private static void askedForAgainIsNotOneOfTheFive() {
-        SpoolLink x = Links.offering(0);
+        CountedLink x = Links.offering(0);
         answers(x, Packets.control(Packets.RJ, 0));
         x.crash(1);
         givesUp(x, 0, 1, 2);
     }
 
     private static void moreDataDoNotBeginAnew() {
-        SpoolLink x = Links.offering(100);
+        CountedLink x = Links.offering(100);
         x.deliver(0);
         x.lose(1);
         Packets.forge(x, 1, Packets.data(1, 0, 'Y'));
@@ -140,7 +140,7 @@ public final class TickTest {
     }
 
     private static void sessionsBeginTheCountsAnew() {
-        SpoolLink x = new SpoolLink();
+        CountedLink x = new CountedLink();
         x.call(0);
         for (int i = 0; i < 23; i++) {
             x.tick();
@@ -154,7 +154,7 @@ public final class TickTest {
     }
 
     private static void quietSites() {
-        SpoolLink x = new SpoolLink();
+        CountedLink x = new CountedLink();
         x.call(0);
         x.deliver(0);
         x.crash(0);
@@ -177,7 +177,7 @@ public final class TickTest {
     private static void goodOnesEndTheQuiet() {
         // GOOD: an ANSWER that is left out; not GOOD: the same, altered.
         for (int altered = 0; altered < 2; altered++) {
-            SpoolLink x = Links.offering(100);
+            CountedLink x = Links.offering(100);
             x.deliver(0);
             x.deliver(1);
             Packets.forge(x, 1, Packets.data(1, 0, 'X'));
@@ -203,7 +203,7 @@ public final class TickTest {
 
     /** The quiet ticks before, of which the INIT leaves none, do not hasten the end. */
     private static void quietSlaveThatThenHasDataOut() {
-        SpoolLink x = new SpoolLink();
+        CountedLink x = new CountedLink();
         Links.addJob(x, 0, 100);
         x.call(0);
         x.deliver(0);
@@ -219,7 +219,7 @@ public final class TickTest {
     }
 
     private static void bothSitesInOneTick() {
-        SpoolLink x = Links.offering(5);
+        CountedLink x = Links.offering(5);
         x.deliver(0);
         Links.told(x, "S and Y are out", 0, 1, 0, 2, 1, 0, 1);
         Links.told(x, "S and Y are out", 1, 0, 0, 3, 1, 0, 0);
