@@ -374,6 +374,11 @@ public final class BoundaryLineTest {
         Check.sentence("beginning with 0 each time (one alone when the other is empty)");
         CountedLink x = fileOnItsWay();
         x.lose(0);
+        Check.due("settle(3)", x.settle(3), 3);
+        // D; RR, for which the fourth D is sent; D.
+        wires(x, "0, then 1 though 0 has more, then 0", 2, 1);
+        x = fileOnItsWay();
+        x.lose(0);
         x.settle(1);
         wires(x, "D", 2, 1);
         x.settle(1);

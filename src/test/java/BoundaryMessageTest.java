@@ -44,7 +44,8 @@ public final class BoundaryMessageTest {
     }
 
     private static void nextOfAnEmptyQueue() {
-        Check.sentence("if its queue is empty it sends H; otherwise S, the first job's number, the length of its file.");
+        Check.sentence("if its queue is empty it sends H; otherwise S, the first job's number, the length of its"
+                + " file.");
         int[][] wanted = {{'H'}, {'S', 0, 0}, {'S', 0, 1}, {'S', 0, 100}};
         for (int i = 0; i < 4; i++) {
             CountedLink x = new CountedLink();
@@ -262,8 +263,8 @@ public final class BoundaryMessageTest {
     }
 
     private static void haltOfTheSlave() {
-        Check.sentence("The SLAVE at H: if its queue is empty, H is sent back; otherwise T, and it is MASTER then, and goes"
-                + " on to its NEXT.");
+        Check.sentence("The SLAVE at H: if its queue is empty, H is sent back; otherwise T, and it is MASTER then, and"
+                + " goes on to its NEXT.");
         Forger forger = quietSlave();
         forger.message(1, 'H');
         Links.lies(forger.x, "H back", 1, rr(3), Packets.data(3, 3, 'H'));
@@ -296,8 +297,8 @@ public final class BoundaryMessageTest {
 
     private static void messagesThatAreNotTold() {
         Check.sentence("Letters are their bytes; S and numbers, D and bytes, others alone.");
-        int[][] toSlave = {{'S'}, {'S', 9}, {'S', 9, 0, 0}, {'H', 0}, {'H', 'H'}, {'N'}, {'Y'}, {'C'}, {'T'}, {'s', 9, 0},
-            {'h'}, {'d', 1}, {0}, {255}, {'R'}, {'G'}, {'I'}, {'E'}};
+        int[][] toSlave = {{'S'}, {'S', 9}, {'S', 9, 0, 0}, {'H', 0}, {'H', 'H'}, {'N'}, {'Y'}, {'C'}, {'T'},
+            {'s', 9, 0}, {'h'}, {'d', 1}, {0}, {255}, {'R'}, {'G'}, {'I'}, {'E'}};
         for (int[] message : toSlave) {
             Forger forger = quietSlave();
             forger.x.queue(1);
@@ -305,8 +306,8 @@ public final class BoundaryMessageTest {
             Links.lies(forger.x, "left out by a SLAVE", 1, rr(3));
             Links.told(forger.x, "left out by a SLAVE", 1, 1, 1, 3, 0, 0, 0);
         }
-        int[][] toMaster = {{'S', 9, 0}, {'D', 1}, {'D'}, {'N', 0}, {'C', 0}, {'Y', 0}, {'H', 0}, {'T', 0}, {'n'}, {'c'},
-            {'y'}, {'h'}, {'t'}, {0}, {255}};
+        int[][] toMaster = {{'S', 9, 0}, {'D', 1}, {'D'}, {'N', 0}, {'C', 0}, {'Y', 0}, {'H', 0}, {'T', 0}, {'n'},
+            {'c'}, {'y'}, {'h'}, {'t'}, {0}, {255}};
         for (int[] message : toMaster) {
             Forger forger = quietMaster(1);
             forger.message(0, message);

@@ -106,8 +106,8 @@ public final class BoundaryTickTest {
     }
 
     private static void fifthTime() {
-        Check.sentence("behind the fifth time that it did so without anything acknowledged in between (at the fourth tick"
-                + " behind it) it is IDLE instead");
+        Check.sentence("behind the fifth time that it did so without anything acknowledged in between (at the fourth"
+                + " tick behind it) it is IDLE instead");
         for (int site = 0; site < 2; site++) {
             CountedLink x = new CountedLink();
             x.call(site);
@@ -129,8 +129,8 @@ public final class BoundaryTickTest {
     }
 
     private static void acknowledgedInBetween() {
-        Check.sentence("behind the fifth time that it did so without anything acknowledged in between (at the fourth tick"
-                + " behind it) it is IDLE instead");
+        Check.sentence("behind the fifth time that it did so without anything acknowledged in between (at the fourth"
+                + " tick behind it) it is IDLE instead");
         for (int times = 4; times <= 5; times++) {
             for (int kind : new int[] {Packets.RR, Packets.RJ}) {
                 Forger forger = Forger.busy(1);
@@ -155,8 +155,8 @@ public final class BoundaryTickTest {
     }
 
     private static void notAcknowledgedInBetween() {
-        Check.sentence("behind the fifth time that it did so without anything acknowledged in between (at the fourth tick"
-                + " behind it) it is IDLE instead");
+        Check.sentence("behind the fifth time that it did so without anything acknowledged in between (at the fourth"
+                + " tick behind it) it is IDLE instead");
         // RR and DATA that acknowledge none, and DATA that are accepted, are no reason to go on.
         for (int way = 0; way < 3; way++) {
             Forger forger = Forger.busy(1);

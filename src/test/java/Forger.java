@@ -4,13 +4,14 @@
  * lie on the line. No tick goes by.
  */
 final class Forger {
-    final CountedLink x = new CountedLink();
+    final CountedLink x;
     /** By site, a number that is not out there: with it RJ has all sent again and acknowledges none. */
     private final int[] notOut = {0, 0};
     /** By site, the number behind the one that it accepted last. */
     private final int[] next = {1, 1};
 
-    private Forger() {
+    private Forger(CountedLink x) {
+        this.x = x;
     }
 
     /**
@@ -19,8 +20,12 @@ final class Forger {
      * DATA 1 and executed job 0. Jobs 0 and 1 have empty files, jobs 2, 3, .. files of these lengths.
      */
     static Forger busy(int... lengths) {
-        Forger forger = new Forger();
-        CountedLink x = forger.x;
+        return busyOn(new CountedLink(), lengths);
+    }
+
+    /** The same on an object on which no job was queued yet, and whose sites are IDLE. */
+    static Forger busyOn(CountedLink x, int... lengths) {
+        Forger forger = new Forger(x);
         x.queue(0);
         x.queue(0);
         for (int length : lengths) {

@@ -2,7 +2,7 @@ import java.util.Random;
 
 /** Runs by fixed seeds, every answer held against PlainLink's: all promises. */
 public final class RandomRunsTest {
-    /** Calls at the end of a run that only read, when there is time for it: a random number of times as many. */
+    /** So many calls at the end of a run only read; in some runs twice or three times as many. */
     private static final int READS = 110;
     private static final int[] ODD = {-1, 0, 1, 2, 3, 5, 6, 12, 30, 37, 38, 99, 100, 101, 200, 201, 255, 256,
         Integer.MIN_VALUE, Integer.MAX_VALUE};
@@ -20,7 +20,7 @@ public final class RandomRunsTest {
     }
 
     public static void main(String[] args) {
-        int runs = args.length == 0 ? 3000 : Integer.parseInt(args[0]);
+        int runs = args.length == 0 ? 6000 : Integer.parseInt(args[0]);
         for (int seed = 0; seed < runs; seed++) {
             new RandomRunsTest(seed).go(seed % 4);
         }
@@ -30,8 +30,8 @@ public final class RandomRunsTest {
 
     /** The runs are worth something only when they come to the rare states too. */
     private static void dueDepth() {
-        String[] names = {"full wires", "three out and more waiting", "executed numbers never queued", "sites idle after quiet ticks",
-            "late INITs left out", "turned masters", "files of 100", "jobs executed"};
+        String[] names = {"full wires", "three out and more waiting", "executed numbers never queued",
+            "sites idle after quiet ticks", "late INITs left out", "turned masters", "files of 100", "jobs executed"};
         for (int i = 0; i < reached.length; i++) {
             System.out.println(names[i] + ": " + reached[i]);
             Check.due("reached " + names[i], reached[i] > 0, true);
@@ -238,7 +238,8 @@ public final class RandomRunsTest {
     private int[] forgedMessage() {
         switch (below(12)) {
             case 0, 1:
-                return Packets.offer(below(3) == 0 ? below(256) : below(5), below(3) == 0 ? 0 : below(6) + 30 * below(4));
+                int length = below(3) == 0 ? 0 : below(6) + 30 * below(4);
+                return Packets.offer(below(3) == 0 ? below(256) : below(5), length);
             case 2:
                 return Packets.offer(below(5), 99 + below(4));
             case 3, 4:
