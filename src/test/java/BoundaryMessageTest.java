@@ -115,6 +115,12 @@ public final class BoundaryMessageTest {
         forger.message(1, 'D', 2);
         Check.due("executed", forger.x.executed(1, 1), 7);
         Check.due("byte 1", forger.x.file(1, 1, 1), 2);
+        // It is left out for a number that is executed, too.
+        forger = quietSlave();
+        forger.message(1, Packets.offer(0, 101));
+        Links.lies(forger.x, "S 0 101", 1, rr(3));
+        forger.message(1, Packets.offer(0, 100));
+        Links.lies(forger.x, "S 0 100", 1, rr(4), Packets.data(3, 4, 'N'));
     }
 
     private static void offerOfWhatIsExecuted() {

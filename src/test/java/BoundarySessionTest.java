@@ -12,6 +12,7 @@ public final class BoundarySessionTest {
         initWhateverItWas();
         initToCalling();
         initOfTheSameY();
+        initBehindEightAccepted();
         initBeforeAnythingIsAccepted();
         initToOneThatWasOpenedOtherwise();
         answerOfThisY();
@@ -183,6 +184,21 @@ public final class BoundarySessionTest {
         x.deliver(1);
         Links.told(x, "INIT 0 to site 0", 0, 0, 0, SLAVE, 1, 0, 0);
         Links.lies(x, "INIT 0 to site 0", 0);
+    }
+
+    private static void initBehindEightAccepted() {
+        Check.sentence("so does an OPEN SLAVE that became so by INIT of the same y and has accepted DATA since");
+        CountedLink x = windowAcross0();
+        x.deliver(0);
+        x.deliver(0);
+        Check.due("the number accepted last is 0 once more", x.look(1, 1, 4), 8 * Packets.RR);
+        for (int i = 0; i < 8; i++) {
+            x.crash(0);
+            x.call(0);
+        }
+        Links.lies(x, "the ninth call", 0, Packets.control(Packets.INIT, 0));
+        x.deliver(0);
+        Links.lies(x, "INIT 0 behind eight DATA", 1);
     }
 
     private static void initBeforeAnythingIsAccepted() {
